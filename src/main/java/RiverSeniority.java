@@ -944,20 +944,12 @@ public final class RiverSeniority {
             }
         }
 
+        /** The rows are emptied when something joins. */
         void reset() {
             today = 0;
             placeCount = 0;
             reachCount = 0;
             rightCount = 0;
-            for (int i = 0; i < MAX_PLACES; i++) {
-                places[i].reset();
-            }
-            for (int i = 0; i < MAX_REACHES; i++) {
-                reaches[i].reset();
-            }
-            for (int i = 0; i < MAX_RIGHTS; i++) {
-                rights[i].reset();
-            }
             forgetPlans();
         }
 
@@ -1327,7 +1319,7 @@ public final class RiverSeniority {
         private final int[] time = new int[CHANNELS];
         private final int[] room = new int[ARCS];
         private final int[] flow = new int[ARCS];
-        /** Arcs whose sending is told by the office's way and stays. */
+        /** Arcs whose sending is told by the office's way: their flow is looked at no more. */
         private final boolean[] settled = new boolean[ARCS];
         private final int[] supply = new int[NODES];
         private final int[] spare = new int[NODES];
@@ -1413,10 +1405,8 @@ public final class RiverSeniority {
             }
             // The whole sending is kept back at first; what cannot come by another way is sent after all.
             int tail = from[reach] * WEEKS + week;
-            flow[arc] = 0;
             spare[tail] += sending;
             int needed = sending - bring(to[reach] * WEEKS + week + time[reach], sending);
-            flow[arc] = needed;
             spare[tail] -= needed;
             return needed;
         }

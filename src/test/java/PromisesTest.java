@@ -121,6 +121,7 @@ public final class PromisesTest {
         marks();
         whatWouldBe();
         measures();
+        firstCalls();
         yearOver();
         System.out.println(wrong == 0 ? checks + " checks are as due" : wrong + " checks are not as due");
         if (wrong != 0) {
@@ -165,6 +166,10 @@ public final class PromisesTest {
             due("append of 20", x.append(0x20202020, 0x20202020, 0x20202020, 0x20202020, 0x20202020), 20 * i);
         }
         refused("the 901st byte", STATE, () -> x.append(0, 0, 0, 0, 0x20));
+        refused("the 901st byte in a", STATE, () -> x.append(0x20, 0, 0, 0, 0));
+        refused("the 901st byte in b", STATE, () -> x.append(0, 0x2000, 0, 0, 0));
+        refused("the 901st byte in c", STATE, () -> x.append(0, 0, 0x200000, 0, 0));
+        refused("the 901st byte in d", STATE, () -> x.append(0, 0, 0, LOW, 0));
         due("nothing more", x.append(0, 0, 0, 0, 0), 900);
         promise = "3";
         due("clearText", x.clearText(), 900);
@@ -245,6 +250,13 @@ public final class PromisesTest {
         due("high byte", stop("basin;\u00ff"), 6);
         due("line end", stop("basin;\n"), 6);
         due("a longer word", stop("basins;"), 0);
+        due("a word up to z", stop("basinz;"), 0);
+        due("a word from a", stop("basina;"), 0);
+        due("a sign behind z", stop("basin{"), 5);
+        due("900 tokens", stop("basin;" + ";".repeat(894)), 6);
+        due("a text of 900 bytes that ends too early", stop("basin;" + " ".repeat(893) + "p"), 899);
+        due("a text of 900 bytes", stop("basin" + " ".repeat(894) + ";"), -1);
+        due("900 signs", stop(";".repeat(900)), 0);
         due("a word behind a number", stop("basin;place 1 1x;"), 15);
         due("words apart from numbers", stop("basin;place1 1;"), -1);
         due("five digits", stop("basin;place 00001 1;"), 12);
@@ -568,6 +580,10 @@ public final class PromisesTest {
         due("if in else", value("if 2<1 then 5 else if 2<1 then 6 else 7"), 7);
         due("the last else reaches far", value("if 2<1 then 5 else 6+1"), 7);
         due("brackets", value("2*(3+4)"), 14);
+        due("8 levels", value("((((((((1+2))))))))*3"), 9);
+        due("8 levels with if", value("(((((((if 1<2 then 3 else 4)))))))+least(1,most(2,3))"), 4);
+        due("8 levels with flow", value("(((((((flow(0))))))))"), 6);
+        due("7 ifs", value("if 1<0 then 1 else ".repeat(7) + "if 1=1 then 8 else 9"), 8);
         x.passWeek();
         say(x, "week*10+flow(0)");
         x.setDecree(1);
@@ -620,6 +636,11 @@ public final class PromisesTest {
         due("levels of ifs", decreeStop("((((" + ifs.repeat(4) + "4))))"), -1);
         due("the 9th level is an if", decreeStop("(((((" + ifs.repeat(4) + "4)))))"), 5 + 3 * ifs.length());
         due("the 9th level in a comparison", decreeStop("(((((((if(1)<2 then 3 else 4)))))))"), 9);
+        due("the 9th level behind a comparison", decreeStop("(((((((if 1<(2) then 3 else 4)))))))"), 12);
+        due("the 9th level behind then", decreeStop("(((((((if 1<2 then (3) else 4)))))))"), 19);
+        due("the 9th level behind else", decreeStop("(((((((if 1<2 then 3 else (4))))))))"), 26);
+        due("the 9th level in a second part", decreeStop("(((((((least(1,(2)))))))))"), 15);
+        due("900 tokens", decreeStop("(".repeat(900)), 8);
         due("if closes behind else", decreeStop("(((((((if 1<2 then 3 else 4)+(1)))))))"), -1);
         RiverSeniority x = new RiverSeniority();
         say(x, "1+");
@@ -710,6 +731,11 @@ public final class PromisesTest {
         due("scenario 1 is the first", y.injuredRight(0, 1, 1, 0, 0), 1);
         y.setInflow(0, 1, 0, 1);
         due("scenario 0 now", y.injuredRight(0, 1, 1, 0, 0), 2);
+        // The lessor may be the younger one by number, and right 0 the one that is injured.
+        RiverSeniority back = office("basin;place 0 0;place 0 0;right 1 1950 0 ask 0 0 9;right 0 1900 0 ask 0 0 4;"
+            + "right 1 1960 0 ask 0 0 9;inflow 0 0 4;inflow 0 1 12;");
+        due("right 0 loses, and right 2", back.injuredRight(1, 1, 4, 0, 0), 0);
+        due("right 2 loses alone", back.injuredRight(1, 1, 3, 0, 0), 2);
         promise = "55";
         RiverSeniority z = office("basin;place 0 0;place 0 0;right 0 1900 0 ask 0 0 20;right 1 1950 0 ask 0 0 3;"
             + "inflow 0 0 20;inflow 0 1 10;inflow 1 1 9;inflow 2 1 8;");
@@ -1306,6 +1332,34 @@ public final class PromisesTest {
         due("errors", new RiverSeniority().errors(), 0);
         due("errors", x.errors(), 0);
         due("errors of nothing", none.errors(), 0);
+    }
+
+    /** What is planned is planned for the first call, too. */
+    private static void firstCalls() {
+        promise = "1, with 14, 25, 38, 39, 40, 41, 42, 44, 50, 51, 52, 53, 56 and 57";
+        RiverSeniority x = new RiverSeniority();
+        x.amountAt(0, 0, 0);
+        due("abandon", new RiverSeniority().abandon(0), x.total(0));
+        due("total", new RiverSeniority().total(1), x.total(1));
+        due("shortage", new RiverSeniority().shortage(0, 0), 1);
+        due("sent", new RiverSeniority().sent(0, 0), x.sent(0, 0));
+        due("storageAt", new RiverSeniority().storageAt(0, 1), x.storageAt(0, 1));
+        due("runOff", new RiverSeniority().runOff(0, 7), x.runOff(0, 7));
+        due("witnessSize", new RiverSeniority().witnessSize(0, 0), x.witnessSize(0, 0));
+        due("helpedRight", new RiverSeniority().helpedRight(2, 0), 0);
+        due("closureCost", new RiverSeniority().closureCost(0, 2), x.closureCost(0, 2));
+        due("harm", new RiverSeniority().harm(2, 0), x.harm(2, 0));
+        due("a harm", x.harm(2, 0) > 0, true);
+        due("meanShortage", new RiverSeniority().meanShortage(), x.meanShortage());
+        due("servedShare", new RiverSeniority().servedShare(), x.servedShare());
+        RiverSeniority y = new RiverSeniority();
+        y.mark(3, 0, true);
+        due("takenInMarks", y.takenInMarks(0, 0), 6);
+        RiverSeniority z = new RiverSeniority();
+        z.createBranch();
+        z.switchBranch(1);
+        z.addRight(0, 1990, 0);
+        due("difference", z.difference(0), 0);
     }
 
     private static void yearOver() {
