@@ -1,103 +1,5 @@
-import java.util.NoSuchElementException;
-
 /** At least one test for each promise of the document: ordinary inputs, edges, wrong inputs. */
-public final class PromisesTest {
-    private static final Class<?> INDEX = IndexOutOfBoundsException.class;
-    private static final Class<?> ARGUMENT = IllegalArgumentException.class;
-    private static final Class<?> STATE = IllegalStateException.class;
-    private static final Class<?> ELEMENT = NoSuchElementException.class;
-    private static final int LOW = Integer.MIN_VALUE;
-    private static final int HIGH = Integer.MAX_VALUE;
-
-    private static int wrong = 0;
-    private static int checks = 0;
-    private static String promise = "";
-
-    private interface Call {
-        Object make();
-    }
-
-    private static void due(String what, Object got, Object want) {
-        checks++;
-        if (!got.equals(want)) {
-            wrong++;
-            System.out.println("promise " + promise + ": " + what + " answered " + got + ", due is " + want);
-        }
-    }
-
-    private static void refused(String what, Class<?> want, Call call) {
-        Object got;
-        try {
-            got = call.make();
-        } catch (RuntimeException e) {
-            got = e.getClass();
-        }
-        due(what, got, want);
-    }
-
-    /** Puts a text into the buffer. */
-    private static void say(RiverSeniority x, String text) {
-        StringBuilder padded = new StringBuilder(text);
-        while (padded.length() % 20 != 0) {
-            padded.append((char) 0);
-        }
-        for (int i = 0; i < padded.length(); i += 20) {
-            int[] w = new int[5];
-            for (int k = 0; k < 20; k++) {
-                w[k / 4] = w[k / 4] << 8 | padded.charAt(i + k);
-            }
-            x.append(w[0], w[1], w[2], w[3], w[4]);
-        }
-    }
-
-    private static RiverSeniority office(String text) {
-        RiverSeniority x = new RiverSeniority();
-        say(x, text);
-        x.readBasin();
-        return x;
-    }
-
-    private static String written(RiverSeniority x) {
-        int length = x.writeBasin();
-        StringBuilder text = new StringBuilder();
-        for (int i = 0; i < length; i++) {
-            text.append((char) x.writtenAt(i));
-        }
-        return text.toString();
-    }
-
-    /** Where the reading of a basin stops. */
-    private static int stop(String text) {
-        RiverSeniority x = new RiverSeniority();
-        say(x, text);
-        try {
-            x.readBasin();
-        } catch (IllegalArgumentException e) {
-            due("what is left in the buffer", x.clearText(), 0);
-        }
-        return x.errorPosition();
-    }
-
-    /** Where the reading of a decree stops. */
-    private static int decreeStop(String text) {
-        RiverSeniority x = new RiverSeniority();
-        say(x, text);
-        try {
-            x.setDecree(0);
-        } catch (IllegalArgumentException e) {
-            due("what is left in the buffer", x.clearText(), 0);
-        }
-        return x.errorPosition();
-    }
-
-    private static RiverSeniority over() {
-        RiverSeniority x = new RiverSeniority();
-        for (int i = 0; i < 8; i++) {
-            x.passWeek();
-        }
-        return x;
-    }
-
+public final class PromisesTest extends Checks {
     public static void main(String[] args) {
         newObject();
         appending();
@@ -123,14 +25,11 @@ public final class PromisesTest {
         measures();
         firstCalls();
         yearOver();
-        System.out.println(wrong == 0 ? checks + " checks are as due" : wrong + " checks are not as due");
-        if (wrong != 0) {
-            System.exit(1);
-        }
+        finish();
     }
 
     private static void newObject() {
-        promise = "1";
+        about("promise 1");
         RiverSeniority x = new RiverSeniority();
         due("text", written(x), "basin;place 20 8;place 0 0;place 10 0;place 0 0;reach 0 1 12 0;reach 1 2 8 1;"
             + "reach 1 3 6 0;reach 2 3 5 0;right 3 1862 1 coins 30 ask 0 7 7;right 1 1880 0 ask 2 5 6;"
@@ -156,7 +55,7 @@ public final class PromisesTest {
     }
 
     private static void appending() {
-        promise = "2";
+        about("promise 2");
         RiverSeniority x = new RiverSeniority();
         due("zero bytes", x.append(0, 0, 0, 0, 0), 0);
         due("bytes", x.append(0x61000062, 0, 0x00630000, 0, 0xff), 4);
@@ -171,7 +70,7 @@ public final class PromisesTest {
         refused("the 901st byte in c", STATE, () -> x.append(0, 0, 0x200000, 0, 0));
         refused("the 901st byte in d", STATE, () -> x.append(0, 0, 0, LOW, 0));
         due("nothing more", x.append(0, 0, 0, 0, 0), 900);
-        promise = "3";
+        about("promise 3");
         due("clearText", x.clearText(), 900);
         due("clearText again", x.clearText(), 0);
         RiverSeniority y = new RiverSeniority();
@@ -190,7 +89,7 @@ public final class PromisesTest {
     }
 
     private static void readingBasins() {
-        promise = "4";
+        about("promise 4");
         RiverSeniority x = new RiverSeniority();
         x.passWeek();
         x.abandon(0);
@@ -231,7 +130,7 @@ public final class PromisesTest {
         });
         due("nothing changed", y.placeCount(), 2);
         due("undo after an error", y.undo(), 2);
-        promise = "5";
+        about("promise 5");
         due("error position", y.errorPosition(), 5);
         say(y, "basin;");
         y.readBasin();
@@ -239,7 +138,7 @@ public final class PromisesTest {
     }
 
     private static void readingErrors() {
-        promise = "4, 5";
+        about("promise 4, 5");
         due("empty", stop(""), 0);
         due("spaces", stop("   "), 3);
         due("too early", stop("basin; place 1 1  "), 18);
@@ -312,25 +211,27 @@ public final class PromisesTest {
     }
 
     private static void writing() {
-        promise = "6";
-        RiverSeniority x = office("basin ; place 1 0 ;place 9 8;reach 1 0 4 0 week 0 5 week 7 5;reach 0 1 0 2;"
+        about("promise 6");
+        String from = "basin ; place 1 0 ;place 9 8;reach 1 0 4 0 week 0 5 week 7 5;reach 0 1 0 2;"
             + "right 0 1900 9 coins 1000 ask 0 0 1 ask 2 7 3 decree if flow(00)<1 then 007 else(week);"
-            + "right 1 1800 0 coins 0 ask 0 7 20;inflow 2 0 0 0 0 0 0 0 0 1;inflow 0 1 0 0;inflow 1 1 40;");
+            + "right 1 1800 0 coins 0 ask 0 7 20;inflow 2 0 0 0 0 0 0 0 0 1;inflow 0 1 0 0;inflow 1 1 40;";
+        RiverSeniority x = office(from);
         String text = "basin;place 1 0;place 9 8;reach 1 0 5 0 week 1 4 week 2 4 week 3 4 week 4 4 week 5 4 week 6 4;"
             + "reach 0 1 0 2;right 0 1900 9 coins 1000 ask 0 0 1 ask 2 7 3 decree if flow ( 0 ) < 1 then 7 else ( week );"
             + "right 1 1800 0 ask 0 7 20;inflow 1 1 40 0 0 0 0 0 0 0;inflow 2 0 0 0 0 0 0 0 0 1;";
         due("length", x.writeBasin(), text.length());
         due("text", written(x), text);
-        x.fund(0, 1);
-        due("more than 1000 coins", written(x), text);
-        x.abandon(1);
-        due("an abandoned right", written(x), text);
-        promise = "7";
+        RiverSeniority rich = office(from);
+        rich.fund(0, 1);
+        rich.abandon(1);
+        due("more than 1000 coins, and an abandoned right", written(rich), text);
+        about("promise 7");
         due("writtenAt(0)", x.writtenAt(0), (int) 'b');
         due("writtenAt(last)", x.writtenAt(text.length() - 1), (int) ';');
         refused("writtenAt(length)", INDEX, () -> x.writtenAt(text.length()));
         refused("writtenAt(-1)", INDEX, () -> x.writtenAt(-1));
         refused("writtenAt(HIGH)", INDEX, () -> x.writtenAt(HIGH));
+        x.abandon(1);
         x.setAsk(0, 0, 7, 0);
         due("the text stays until the next writing", x.writtenAt(text.length() - 1), (int) ';');
         x.undo();
@@ -340,30 +241,21 @@ public final class PromisesTest {
         y.passWeek();
         due("balance", y.balance(0), -45);
         due("text of a debtor", written(y), "basin;place 9 4;right 0 1900 9 ask 0 0 5;");
-        // The longest text stays whole.
-        RiverSeniority z = office("basin;place 60 60;place 60 60;place 60 60;place 60 60;place 60 60;place 60 60;");
-        longest(z);
+        longest();
     }
 
-    private static void longest(RiverSeniority z) {
+    /** The longest text stays whole; as an object has 512 calls, this looks at its length and at some of its bytes. */
+    private static void longest() {
+        String inflows = "";
+        for (int i = 0; i < 18; i++) {
+            inflows += "inflow " + i / 6 + " " + i % 6 + " 40".repeat(8) + ";";
+        }
+        String places = "basin;" + "place 60 60;".repeat(6);
+        RiverSeniority z = office(places + inflows);
         for (int i = 0; i < 9; i++) {
             z.addReach(5, 4, 50, 2);
             for (int w = 1; w < 8; w++) {
                 z.setCapacity(i, w, 49);
-            }
-        }
-        for (int i = 0; i < 10; i++) {
-            z.addRight(5, 2099, 9);
-            z.fund(i, 1000);
-            for (int w = 0; w < 8; w++) {
-                z.setAsk(i, w, w, 20 - w % 2);
-            }
-            say(z, "total(5)" + "+9999".repeat(28));
-            due("tokens", z.setDecree(i), 60);
-        }
-        for (int i = 0; i < 18; i++) {
-            for (int w = 0; w < 8; w++) {
-                z.setInflow(i / 6, i % 6, w, 40);
             }
         }
         String right = "right 5 2099 9 coins 1000";
@@ -371,16 +263,25 @@ public final class PromisesTest {
             right += " ask " + w + " " + w + (w % 2 == 0 ? " 20" : " 19");
         }
         right += " decree total ( 5 )" + " + 9999".repeat(28) + ";";
-        String reach = "reach 5 4 50 2 week 1 49 week 2 49 week 3 49 week 4 49 week 5 49 week 6 49 week 7 49;";
-        String inflows = "";
-        for (int i = 0; i < 18; i++) {
-            inflows += "inflow " + i / 6 + " " + i % 6 + " 40".repeat(8) + ";";
+        for (int i = 0; i < 10; i++) {
+            z.addRight(5, 2099, 9);
+            z.fund(i, 1000);
+            for (int w = 0; w < 8; w++) {
+                z.setAsk(i, w, w, 20 - w % 2);
+            }
+            due("tokens", decree(z, i, "total(5)" + "+9999".repeat(28)), 60);
         }
-        due("the longest text", written(z), "basin;" + "place 60 60;".repeat(6) + reach.repeat(9) + right.repeat(10) + inflows);
+        String reach = "reach 5 4 50 2 week 1 49 week 2 49 week 3 49 week 4 49 week 5 49 week 6 49 week 7 49;";
+        String text = places + reach.repeat(9) + right.repeat(10) + inflows;
+        due("the length of the longest text", z.writeBasin(), text.length());
+        for (int i = 0; i < 190; i++) {
+            int index = i * (text.length() - 1) / 189;
+            due("byte " + index + " of the longest text", z.writtenAt(index), (int) text.charAt(index));
+        }
     }
 
     private static void basinChanges() {
-        promise = "8";
+        about("promise 8");
         RiverSeniority x = new RiverSeniority();
         refused("capacity -1", ARGUMENT, () -> x.addPlace(-1, 0));
         refused("capacity 61", ARGUMENT, () -> x.addPlace(61, 0));
@@ -392,7 +293,7 @@ public final class PromisesTest {
         due("storageAt", x.storageAt(4, 0), 60);
         refused("7th place", STATE, () -> x.addPlace(0, 0));
         refused("7th place out of range", ARGUMENT, () -> x.addPlace(0, 1));
-        promise = "9";
+        about("promise 9");
         refused("from", INDEX, () -> x.addReach(6, 0, 99, 9));
         refused("from -1", INDEX, () -> x.addReach(-1, 0, 1, 1));
         refused("to", INDEX, () -> x.addReach(0, 6, 1, 1));
@@ -410,7 +311,7 @@ public final class PromisesTest {
         for (int w = 0; w < 8; w++) {
             due("capacityAt", x.capacityAt(8, w), 50);
         }
-        promise = "10";
+        about("promise 10");
         due("setCapacity", x.setCapacity(8, 7, 0), 50);
         due("setCapacity again", x.setCapacity(8, 7, 50), 0);
         due("other weeks", x.capacityAt(8, 6), 50);
@@ -423,7 +324,7 @@ public final class PromisesTest {
         refused("week over", STATE, () -> x.setCapacity(8, 0, 1));
         refused("week over, capacity 51", ARGUMENT, () -> x.setCapacity(8, 0, 51));
         due("the present week", x.setCapacity(8, 1, 3), 50);
-        promise = "8, 9";
+        about("promise 8, 9");
         // What comes later was not there in the weeks that are over.
         RiverSeniority y = office("basin;place 3 3;inflow 0 0 5;");
         y.passWeek();
@@ -439,7 +340,7 @@ public final class PromisesTest {
     }
 
     private static void rightChanges() {
-        promise = "11";
+        about("promise 11");
         RiverSeniority x = new RiverSeniority();
         refused("place", INDEX, () -> x.addRight(4, 1, 99));
         refused("place -1", INDEX, () -> x.addRight(-1, 1900, 1));
@@ -458,7 +359,7 @@ public final class PromisesTest {
             due("asks for nothing", x.askedAt(0, 4, w), 0);
         }
         due("balance", x.balance(9), 0);
-        promise = "12";
+        about("promise 12");
         refused("right", INDEX, () -> x.setAsk(10, 8, 0, 99));
         refused("first 8", ARGUMENT, () -> x.setAsk(0, 8, 8, 1));
         refused("first -1", ARGUMENT, () -> x.setAsk(0, -1, 8, 1));
@@ -474,7 +375,7 @@ public final class PromisesTest {
         x.passWeek();
         refused("first week over", STATE, () -> x.setAsk(1, 0, 7, 1));
         refused("first week over, amount", ARGUMENT, () -> x.setAsk(1, 0, 7, 21));
-        promise = "14";
+        about("promise 14");
         RiverSeniority y = new RiverSeniority();
         refused("right", INDEX, () -> y.abandon(4));
         int all = y.total(0);
@@ -492,7 +393,7 @@ public final class PromisesTest {
     }
 
     private static void funding() {
-        promise = "15";
+        about("promise 15");
         RiverSeniority x = office("basin;place 9 9;right 0 1900 9 ask 0 7 5;");
         refused("right", INDEX, () -> x.fund(1, 0));
         refused("coins 0", ARGUMENT, () -> x.fund(0, 0));
@@ -512,7 +413,7 @@ public final class PromisesTest {
         }
         due("400 times 1000", balance, 400000);
         due("fund 1000", x.fund(0, 1000), 401000);
-        // 512 calls are too few for a million; this tries the bound all the same.
+        // 512 calls are too few for a million, and what later calls answer is free; this tries the bound all the same.
         RiverSeniority rich = office("basin;place 0 0;right 0 1900 0 coins 1000;");
         for (int i = 0; i < 999; i++) {
             rich.fund(0, 1000);
@@ -523,7 +424,7 @@ public final class PromisesTest {
     }
 
     private static void decrees() {
-        promise = "13";
+        about("promise 13");
         RiverSeniority x = new RiverSeniority();
         say(x, " week+flow ( 0 ) * 2 ");
         due("setDecree", x.setDecree(3), 8);
@@ -549,7 +450,7 @@ public final class PromisesTest {
         refused("error", ARGUMENT, () -> x.setDecree(1));
         due("errorPosition", x.errorPosition(), 2);
         due("buffer is empty", x.clearText(), 0);
-        promise = "33";
+        about("promise 33");
         refused("scenario", INDEX, () -> x.decreeValue(3, 1, 8));
         refused("right", INDEX, () -> x.decreeValue(0, 4, 8));
         refused("week", ARGUMENT, () -> x.decreeValue(0, 1, 8));
@@ -600,7 +501,7 @@ public final class PromisesTest {
     }
 
     private static void decreeErrors() {
-        promise = "13";
+        about("promise 13");
         due("no expression", decreeStop("+"), 0);
         due("ends early", decreeStop("1+ "), 3);
         due("no token", decreeStop("1 + ?"), 4);
@@ -654,7 +555,7 @@ public final class PromisesTest {
     }
 
     private static void leases() {
-        promise = "16";
+        about("promise 16");
         // Two places, a reach from 0 to 1; the lessor sits at 1, a younger right at 0.
         String text = "basin;place 0 0;place 0 0;reach 0 1 5 0;right 1 1900 2 ask 0 7 4;right 0 1950 1 ask 0 7 6;"
             + "inflow 0 0 10 10 10 10 10 10 10 10;inflow 1 0 10 10 10 10 10 10 10 10;inflow 2 0 10 10 10 10 10 10 10 10;";
@@ -705,12 +606,12 @@ public final class PromisesTest {
         String text = "basin;place 0 0;place 0 0;reach 0 1 9 0;right 1 1900 0 ask 0 0 4;right 1 1950 0 ask 0 0 9;"
             + "inflow 0 0 5;inflow 1 0 20;inflow 2 0 3;";
         RiverSeniority x = office(text);
-        promise = "54";
+        about("promise 54");
         // By scenario 0 five units come, four to the lessor: the younger right keeps its one, wherever the four go.
         due("nobody", x.injuredRight(0, 0, 4, 0, 0), -1);
-        promise = "55";
+        about("promise 55");
         due("greatest", x.greatestLease(0, 0, 0, 0), 4);
-        promise = "54";
+        about("promise 54");
         // A place without water: the lease gets nothing there, and the younger right more.
         x.addPlace(0, 0);
         due("nobody at a dry place", x.injuredRight(0, 2, 4, 0, 0), -1);
@@ -722,9 +623,9 @@ public final class PromisesTest {
         due("it loses by one unit, too", x.injuredRight(0, 0, 1, 0, 0), 1);
         // Leased wholly, the lessor asks for nothing: 4 are taken instead of 1.
         due("four", x.injuredRight(0, 0, 4, 0, 0), 1);
-        promise = "55";
+        about("promise 55");
         due("none", x.greatestLease(0, 0, 0, 0), 0);
-        promise = "54";
+        about("promise 54");
         // The scenarios are gone through in their order, and in each the rights.
         RiverSeniority y = office("basin;place 0 0;place 0 0;right 0 1900 0 ask 0 0 4;right 1 1950 0 ask 0 0 9;"
             + "right 1 1940 0 ask 0 0 1;inflow 0 0 4;inflow 0 1 20;inflow 1 0 4;inflow 1 1 9;inflow 2 1 10;");
@@ -736,7 +637,7 @@ public final class PromisesTest {
             + "right 1 1960 0 ask 0 0 9;inflow 0 0 4;inflow 0 1 12;");
         due("right 0 loses, and right 2", back.injuredRight(1, 1, 4, 0, 0), 0);
         due("right 2 loses alone", back.injuredRight(1, 1, 3, 0, 0), 2);
-        promise = "55";
+        about("promise 55");
         RiverSeniority z = office("basin;place 0 0;place 0 0;right 0 1900 0 ask 0 0 20;right 1 1950 0 ask 0 0 3;"
             + "inflow 0 0 20;inflow 0 1 10;inflow 1 1 9;inflow 2 1 8;");
         due("as much as the driest scenario spares", z.greatestLease(0, 1, 0, 0), 5);
@@ -752,7 +653,7 @@ public final class PromisesTest {
         refused("abandoned, injuredRight", STATE, () -> z.injuredRight(0, 0, 1, 0, 0));
         z.passWeek();
         refused("week over", STATE, () -> z.greatestLease(0, 0, 0, 3));
-        promise = "54";
+        about("promise 54");
         refused("right", INDEX, () -> z.injuredRight(2, 0, 0, 0, 0));
         refused("place", INDEX, () -> z.injuredRight(0, -1, 0, 0, 0));
         refused("amount", ARGUMENT, () -> z.injuredRight(1, 0, 21, 1, 1));
@@ -767,12 +668,12 @@ public final class PromisesTest {
             due("injured", more.injuredRight(0, 1, amount, 0, 0), 1);
         }
         due("leased wholly", more.injuredRight(0, 1, 4, 0, 0), -1);
-        promise = "55";
+        about("promise 55");
         due("also if not with a lesser one", more.greatestLease(0, 1, 0, 0), 4);
     }
 
     private static void weekChanges() {
-        promise = "17";
+        about("promise 17");
         RiverSeniority x = new RiverSeniority();
         due("setInflow", x.setInflow(0, 0, 3, 40), 12);
         due("inflowAt", x.inflowAt(0, 0, 3), 40);
@@ -786,7 +687,7 @@ public final class PromisesTest {
         x.passWeek();
         refused("week over", STATE, () -> x.setInflow(2, 0, 0, 1));
         refused("week over, amount", ARGUMENT, () -> x.setInflow(2, 0, 0, 41));
-        promise = "18";
+        about("promise 18");
         due("gauge", x.gauge(0, 0), 6);
         for (int s = 0; s < 3; s++) {
             due("inflow in all scenarios", x.inflowAt(s, 0, 1), 0);
@@ -797,7 +698,7 @@ public final class PromisesTest {
         refused("amount 41", ARGUMENT, () -> x.gauge(0, 41));
         refused("amount -1", ARGUMENT, () -> x.gauge(0, -1));
         due("gauge 40", x.gauge(0, 40), 0);
-        promise = "19";
+        about("promise 19");
         int stored = x.storageAt(0, 1);
         due("measure", x.measure(0, 20), stored);
         due("storage", x.storageAt(0, 1), 20);
@@ -810,7 +711,7 @@ public final class PromisesTest {
     }
 
     private static void passing() {
-        promise = "20";
+        about("promise 20");
         // Right 1 is older; the reach takes a week, so the present water is spent at place 0.
         RiverSeniority x = office("basin;place 4 1;place 3 0;reach 0 1 5 1;right 1 1900 3 coins 5 ask 1 2 4;"
             + "right 0 1910 1 ask 0 0 2;inflow 0 0 6 1;");
@@ -852,7 +753,7 @@ public final class PromisesTest {
     }
 
     private static void journal() {
-        promise = "21";
+        about("promise 21");
         RiverSeniority x = new RiverSeniority();
         for (int i = 1; i <= 7; i++) {
             x.setAsk(3, 0, 0, i);
@@ -863,7 +764,7 @@ public final class PromisesTest {
         }
         due("nothing to undo", x.undo(), -1);
         due("the oldest change stays", x.askedAt(0, 3, 0), 1);
-        promise = "22";
+        about("promise 22");
         for (int i = 2; i <= 7; i++) {
             due("redo", x.redo(), 7 - i);
             due("ask", x.askedAt(0, 3, 0), i);
@@ -883,18 +784,18 @@ public final class PromisesTest {
         due("undo", x.undo(), 4);
         refused("refused", ARGUMENT, () -> x.setAsk(3, 0, 0, 21));
         due("a refused call forgets nothing", x.redo(), 0);
-        promise = "21, 22";
+        about("promise 21, 22");
         // All of a branch comes back: also what is over, abandoned, leased or on its way.
         RiverSeniority y = new RiverSeniority();
         y.lease(3, 0, 1, 7, 7);
         y.passWeek();
         y.abandon(1);
-        String text = written(y);
+        int length = y.writeBasin();
         say(y, "basin;place 1 1;");
         y.readBasin();
         due("text", written(y), "basin;place 1 1;");
         y.undo();
-        due("text", written(y), text);
+        due("length of the text", y.writeBasin(), length);
         due("abandoned", y.askedAt(0, 1, 3), 0);
         y.undo();
         due("not abandoned", y.askedAt(0, 1, 3), 6);
@@ -914,13 +815,13 @@ public final class PromisesTest {
     }
 
     private static void branches() {
-        promise = "23";
+        about("promise 23");
         RiverSeniority x = new RiverSeniority();
         x.setAsk(3, 0, 0, 9);
         due("createBranch", x.createBranch(), 1);
         due("it is not the current one", x.undo(), 0);
         due("createBranch can be followed by a redo", x.redo(), 0);
-        promise = "24";
+        about("promise 24");
         due("switchBranch", x.switchBranch(1), 0);
         due("a copy", x.askedAt(0, 3, 0), 9);
         due("without changes to undo", x.undo(), -1);
@@ -932,11 +833,11 @@ public final class PromisesTest {
         due("its own journal", x.undo(), 0);
         refused("no such branch", INDEX, () -> x.switchBranch(2));
         refused("no such branch", INDEX, () -> x.switchBranch(-1));
-        promise = "23";
+        about("promise 23");
         due("createBranch", x.createBranch(), 2);
         refused("a 4th branch", STATE, () -> x.createBranch());
         due("no change", x.redo(), 0);
-        promise = "25";
+        about("promise 25");
         RiverSeniority y = office("basin;place 0 0;right 0 1900 0 ask 0 7 3;inflow 0 0 9 9 9 2 0 0 0 0;");
         due("with itself", y.difference(0), 0);
         y.createBranch();
@@ -960,32 +861,32 @@ public final class PromisesTest {
 
     private static void whatThereIs() {
         RiverSeniority x = new RiverSeniority();
-        promise = "26";
+        about("promise 26");
         due("today", x.today(), 0);
-        promise = "27";
+        about("promise 27");
         due("placeCount", x.placeCount(), 4);
-        promise = "28";
+        about("promise 28");
         due("reachCount", x.reachCount(), 4);
-        promise = "29";
+        about("promise 29");
         due("rightCount", x.rightCount(), 4);
-        promise = "30";
+        about("promise 30");
         due("capacityAt", x.capacityAt(0, 7), 12);
         refused("reach", INDEX, () -> x.capacityAt(4, 8));
         refused("week", ARGUMENT, () -> x.capacityAt(3, 8));
         refused("week -1", ARGUMENT, () -> x.capacityAt(3, -1));
-        promise = "31";
+        about("promise 31");
         due("inflowAt", x.inflowAt(2, 1, 3), 3);
         due("not told", x.inflowAt(1, 1, 3), 0);
         refused("scenario", INDEX, () -> x.inflowAt(3, 0, 8));
         refused("place", INDEX, () -> x.inflowAt(0, 4, 8));
         refused("week", ARGUMENT, () -> x.inflowAt(0, 0, 8));
-        promise = "32";
+        about("promise 32");
         due("askedAt", x.askedAt(0, 1, 2), 6);
         due("askedAt", x.askedAt(0, 1, 1), 0);
         refused("scenario", INDEX, () -> x.askedAt(HIGH, 0, 8));
         refused("right", INDEX, () -> x.askedAt(0, 4, 8));
         refused("week", ARGUMENT, () -> x.askedAt(0, 0, LOW));
-        promise = "34";
+        about("promise 34");
         due("rankOf(0)", x.rankOf(0), 0);
         due("rankOf(1)", x.rankOf(1), 2);
         due("rankOf(2)", x.rankOf(2), 1);
@@ -995,14 +896,14 @@ public final class PromisesTest {
         x.addRight(0, 1800, 0);
         due("the oldest", x.rankOf(5), 0);
         refused("right", INDEX, () -> x.rankOf(6));
-        promise = "35";
+        about("promise 35");
         due("lessorOf", x.lessorOf(5), -1);
         refused("right", INDEX, () -> x.lessorOf(-1));
-        promise = "36";
+        about("promise 36");
         due("balance", x.balance(0), 30);
         due("balance", x.balance(1), 0);
         refused("right", INDEX, () -> x.balance(6));
-        promise = "32";
+        about("promise 32");
         // What was asked for in a week that is over is known by scenario 0, whatever is decreed later.
         RiverSeniority y = office("basin;place 0 0;right 0 1900 0 ask 0 7 9 decree flow(0);inflow 0 0 4;inflow 1 0 6;");
         due("by scenario 1", y.askedAt(1, 0, 0), 6);
@@ -1015,7 +916,7 @@ public final class PromisesTest {
     }
 
     private static void plans() {
-        promise = "37";
+        about("promise 37");
         RiverSeniority x = new RiverSeniority();
         refused("scenario", INDEX, () -> x.amountAt(3, 0, 8));
         refused("right", INDEX, () -> x.amountAt(0, 4, 8));
@@ -1035,13 +936,13 @@ public final class PromisesTest {
             + "right 1 1950 0 ask 0 0 5;inflow 0 1 7;");
         due("by a circle", z.amountAt(0, 0, 0), 5);
         due("what is left", z.amountAt(0, 1, 0), 2);
-        promise = "38";
+        about("promise 38");
         due("total", y.total(0), 6);
         due("total of the younger", y.total(1), 0);
         y.passWeek();
         due("total with a week over", y.total(0), 6);
         refused("right", INDEX, () -> y.total(2));
-        promise = "39";
+        about("promise 39");
         due("shortage", y.shortage(0, 2), 3);
         due("no shortage", y.shortage(0, 1), 0);
         due("over", y.shortage(1, 0), 5);
@@ -1050,7 +951,7 @@ public final class PromisesTest {
     }
 
     private static void ways() {
-        promise = "40";
+        about("promise 40");
         // Two ways to place 1: the reach with the lesser number sends as little as the other one leaves to it.
         RiverSeniority x = office("basin;place 0 0;place 0 0;reach 0 1 9 0;reach 0 1 4 0;right 1 1900 0 ask 0 0 6;inflow 0 0 9;");
         due("sent(0)", x.sent(0, 0), 2);
@@ -1065,7 +966,7 @@ public final class PromisesTest {
         due("sent 2", y.sent(0, 2), 3);
         due("sent 3", y.sent(0, 3), 0);
         due("sent 7", y.sent(0, 7), 0);
-        promise = "41";
+        about("promise 41");
         due("present", y.storageAt(0, 0), 5);
         due("end of week 1", y.storageAt(0, 2), 3);
         due("end of week 2", y.storageAt(0, 3), 0);
@@ -1074,7 +975,7 @@ public final class PromisesTest {
         refused("place", INDEX, () -> y.storageAt(2, 9));
         refused("week 9", ARGUMENT, () -> y.storageAt(1, 9));
         refused("week -1", ARGUMENT, () -> y.storageAt(1, -1));
-        promise = "42";
+        about("promise 42");
         RiverSeniority z = office("basin;place 5 4;inflow 0 0 0 3 0 0 0 0 0 9;");
         due("runOff(0, 0)", z.runOff(0, 0), 0);
         due("runOff(0, 1)", z.runOff(0, 1), 2);
@@ -1088,7 +989,7 @@ public final class PromisesTest {
         due("the measured one", z.storageAt(0, 2), 0);
         refused("place", INDEX, () -> z.runOff(1, 8));
         refused("week", ARGUMENT, () -> z.runOff(0, 8));
-        promise = "40";
+        about("promise 40");
         // A reach whose water would be lost sends nothing.
         RiverSeniority lost = office("basin;place 0 0;place 0 0;reach 0 1 9 2;right 1 1900 0 ask 0 7 6;"
             + "inflow 0 0 9 9 9 9 9 9 9 9;");
@@ -1098,7 +999,7 @@ public final class PromisesTest {
     }
 
     private static void changedAmounts() {
-        promise = "43";
+        about("promise 43");
         RiverSeniority x = office("basin;place 0 0;right 0 1900 0 ask 0 7 3;inflow 0 0 9 9 9 2 0 0 0 0;");
         // Ahead of it right 0 of the first basin got 6 or 7 units: only the right and the weeks behind it count.
         int whole = x.changedAmounts();
@@ -1162,7 +1063,7 @@ public final class PromisesTest {
     }
 
     private static void witnesses() {
-        promise = "44";
+        about("promise 44");
         // A reach of 2 units a week to a place without a reservoir: each week is its own witness.
         RiverSeniority x = office("basin;place 9 9;place 0 0;place 0 0;reach 0 1 2 0;reach 1 2 5 0;"
             + "right 2 1900 0 ask 0 1 4;right 1 1950 0 ask 0 0 1;inflow 0 0 9;inflow 0 2 0 1;");
@@ -1172,7 +1073,7 @@ public final class PromisesTest {
         refused("right", INDEX, () -> x.witnessSize(2, 8));
         refused("week", ARGUMENT, () -> x.witnessSize(1, 8));
         refused("no shortage", ELEMENT, () -> x.witnessSize(1, 1));
-        promise = "45";
+        about("promise 45");
         x.mark(0, 7, true);
         due("markWitness", x.markWitness(0, 1), 3);
         due("marked", x.isMarked(2, 1), true);
@@ -1200,7 +1101,7 @@ public final class PromisesTest {
     }
 
     private static void marks() {
-        promise = "46";
+        about("promise 46");
         RiverSeniority x = new RiverSeniority();
         due("mark", x.mark(0, 0, true), false);
         due("mark again", x.mark(0, 0, true), true);
@@ -1209,13 +1110,13 @@ public final class PromisesTest {
         refused("place", INDEX, () -> x.mark(4, 8, true));
         refused("week", ARGUMENT, () -> x.mark(0, 8, true));
         refused("week -1", ARGUMENT, () -> x.mark(0, -1, true));
-        promise = "48";
+        about("promise 48");
         x.mark(3, 7, true);
         due("isMarked", x.isMarked(3, 7), true);
         due("not", x.isMarked(3, 6), false);
         refused("place", INDEX, () -> x.isMarked(4, 8));
         refused("week", ARGUMENT, () -> x.isMarked(3, 8));
-        promise = "47";
+        about("promise 47");
         x.mark(0, 0, true);
         say(x, "basin;place 3 2;");
         x.readBasin();
@@ -1224,7 +1125,7 @@ public final class PromisesTest {
         due("water into the marks that count", x.waterIntoMarks(), 2);
         due("clearMarks", x.clearMarks(), 2);
         due("clearMarks again", x.clearMarks(), 0);
-        promise = "49";
+        about("promise 49");
         due("no node", x.waterIntoMarks(), 0);
         RiverSeniority y = office("basin;place 7 3;place 0 0;reach 0 1 12 0;reach 0 1 6 1 week 1 4;reach 1 0 9 2;"
             + "right 1 1900 0 ask 0 7 7;right 0 1950 0 ask 0 0 1;inflow 0 0 5 6;inflow 0 1 1 2;inflow 2 0 40 40;");
@@ -1241,7 +1142,7 @@ public final class PromisesTest {
         due("a reach inside of the set", y.waterIntoMarks(), 2 + 12 + 8);
         y.mark(1, 2, true);
         due("a reach of the week ahead", y.waterIntoMarks(), 2 + 12 + 8 + 12 + 4);
-        promise = "50";
+        about("promise 50");
         int first = y.amountAt(0, 0, 1);
         int second = y.amountAt(0, 0, 2);
         due("up to week 0", y.takenInMarks(0, 0), 0);
@@ -1253,19 +1154,19 @@ public final class PromisesTest {
         y.passWeek();
         refused("week over", STATE, () -> y.takenInMarks(0, 0));
         due("marks of weeks over do not count", y.takenInMarks(1, 1), y.amountAt(0, 0, 1) + y.amountAt(0, 0, 2));
-        promise = "49";
+        about("promise 49");
         y.clearMarks();
         y.mark(1, 1, true);
         due("what arrives counts", y.waterIntoMarks(), 2 + 12 + y.sent(1, 0));
         y.mark(1, 0, true);
         due("a week over does not", y.waterIntoMarks(), 2 + 12 + y.sent(1, 0));
-        promise = "46";
+        about("promise 46");
         due("marking a week over", y.mark(0, 0, true), false);
         due("it bears it", y.isMarked(0, 0), true);
     }
 
     private static void whatWouldBe() {
-        promise = "51";
+        about("promise 51");
         // The reach of 2 bounds both rights at place 1; the older one has enough.
         RiverSeniority x = office("basin;place 0 0;place 0 0;reach 0 1 2 0;right 1 1950 0 ask 0 0 4;right 1 1900 0 ask 0 0 1;"
             + "right 0 1990 0 ask 0 0 9;inflow 0 0 4;");
@@ -1275,7 +1176,7 @@ public final class PromisesTest {
         refused("week", ARGUMENT, () -> x.helpedRight(0, 8));
         x.setCapacity(0, 0, 50);
         due("wide enough", x.helpedRight(0, 0), -1);
-        promise = "52";
+        about("promise 52");
         x.setCapacity(0, 0, 2);
         // Two units less at place 1 are two units more for the young right at place 0.
         due("closureCost", x.closureCost(0, 0), 0);
@@ -1295,7 +1196,7 @@ public final class PromisesTest {
         // 50 is not enough for three rights of 20, and 51 is tried.
         due("50 and 1", office("basin;place 0 0;place 0 0;place 0 0;reach 0 1 50 0;right 1 1900 0 ask 0 0 20;right 1 1900 0 ask 0 0 20;"
             + "right 1 1900 0 ask 0 0 20;reach 2 0 50 0;inflow 0 0 40;inflow 0 2 20;").helpedRight(0, 0), 2);
-        promise = "53";
+        about("promise 53");
         due("harm", y.harm(1, 0), 3);
         due("no harm to the older one", y.harm(0, 1), 0);
         refused("right", INDEX, () -> y.harm(2, 2));
@@ -1312,13 +1213,13 @@ public final class PromisesTest {
     }
 
     private static void measures() {
-        promise = "56";
+        about("promise 56");
         RiverSeniority x = office("basin;place 0 0;right 0 1900 0 ask 0 3 3;right 0 1950 0;inflow 0 0 3 2 1;");
         // Shortages 0, 1, 2, 3 of sixteen pairs.
         due("meanShortage", x.meanShortage(), 6.0 / 16.0);
         x.passWeek();
         due("one week over", x.meanShortage(), 6.0 / 14.0);
-        promise = "57";
+        about("promise 57");
         due("servedShare", x.servedShare(), 6.0f / 12.0f);
         x.setAsk(0, 1, 7, 0);
         due("servedShare, week over alone", x.servedShare(), 1.0f);
@@ -1328,7 +1229,7 @@ public final class PromisesTest {
         RiverSeniority third = office("basin;place 0 0;right 0 1900 0 ask 0 0 3;inflow 0 0 1;inflow 1 0 9;");
         due("a third", third.servedShare(), 1.0f / 3.0f);
         due("a twelfth", third.meanShortage(), 2.0 / 8.0);
-        promise = "58";
+        about("promise 58");
         due("errors", new RiverSeniority().errors(), 0);
         due("errors", x.errors(), 0);
         due("errors of nothing", none.errors(), 0);
@@ -1336,7 +1237,7 @@ public final class PromisesTest {
 
     /** What is planned is planned for the first call, too. */
     private static void firstCalls() {
-        promise = "1, with 14, 25, 38, 39, 40, 41, 42, 44, 50, 51, 52, 53, 56 and 57";
+        about("promise 1, with 14, 25, 38, 39, 40, 41, 42, 44, 50, 51, 52, 53, 56 and 57");
         RiverSeniority x = new RiverSeniority();
         x.amountAt(0, 0, 0);
         due("abandon", new RiverSeniority().abandon(0), x.total(0));
@@ -1363,7 +1264,7 @@ public final class PromisesTest {
     }
 
     private static void yearOver() {
-        promise = "8 to 58, when the year is over";
+        about("promise 8 to 58, when the year is over");
         RiverSeniority x = over();
         due("today", x.today(), 8);
         refused("setCapacity", STATE, () -> x.setCapacity(0, 7, 1));
