@@ -675,6 +675,18 @@ public final class TermsTest extends Checks {
         due("it counts again", y.waterIntoMarks(), 6);
         y.undo();
         due("with those that do not count", y.clearMarks(), 3);
+        about("markWitness takes all marks away, also those that do not count");
+        RiverSeniority z = office("basin;place 0 0;place 0 0;");
+        z.mark(1, 3, true);
+        z.mark(0, 0, true);
+        say(z, "basin;place 0 0;right 0 1900 0 ask 0 7 1;");
+        z.readBasin();
+        z.passWeek();
+        due("markWitness", z.markWitness(0, 1), 0);
+        due("a week that is over", z.isMarked(0, 0), false);
+        z.addPlace(0, 0);
+        due("a place that was not there", z.isMarked(1, 3), false);
+        due("the witness alone", z.clearMarks(), 1);
     }
 
     // ---------------------------------------------------------------- 7. Leases
