@@ -72,8 +72,9 @@ public final class RiverSeniority {
         trial = new Basin();
         evaluator = new Evaluator();
         network = new Network(evaluator);
-        reader = new Reader();
-        writer = new Writer();
+        Signs signs = new Signs();
+        reader = new Reader(signs);
+        writer = new Writer(signs);
         marks = new boolean[NODES];
         nodeSet = new boolean[NODES];
         reader.addText(FIRST_PLACES);
@@ -1657,7 +1658,10 @@ public final class RiverSeniority {
         }
     }
 
-    /** The kinds of tokens, and the texts of those that stand for themselves. */
+    /**
+     * The kinds of tokens, and the texts of those that stand for themselves. Their letters are kept in a
+     * row, so that neither reading nor writing has to ask for a String.
+     */
     private static final class Signs {
         static final int END = 0;
         static final int BAD = 1;
@@ -1689,8 +1693,36 @@ public final class RiverSeniority {
         static final int TOTAL = 27;
         static final int LEAST = 28;
         static final int MOST = 29;
+        private static final int KINDS = 30;
+        private static final int MAX_LETTERS = 100;
 
-        static String text(int sign) {
+        private final char[] letters = new char[MAX_LETTERS];
+        /** Where the text of each kind begins; that of the next one begins where it ends. */
+        private final int[] starts = new int[KINDS + 1];
+
+        Signs() {
+            int count = 0;
+            for (int sign = 0; sign < KINDS; sign++) {
+                String word = word(sign);
+                starts[sign] = count;
+                for (int i = 0; i < word.length() && count < MAX_LETTERS; i++) {
+                    letters[count] = word.charAt(i);
+                    count++;
+                }
+            }
+            starts[KINDS] = count;
+        }
+
+        int length(int sign) {
+            return sign >= 0 && sign < KINDS ? starts[sign + 1] - starts[sign] : 0;
+        }
+
+        /** The index is below the length. */
+        char letter(int sign, int index) {
+            return letters[starts[sign] + index];
+        }
+
+        private static String word(int sign) {
             switch (sign) {
                 case SEMICOLON: return ";";
                 case OPEN: return "(";
@@ -1729,6 +1761,7 @@ public final class RiverSeniority {
      * token fits, so that the place of the error stays.
      */
     private static final class Reader {
+        private final Signs signs;
         private final char[] text = new char[MAX_TEXT];
         int length;
         int errorAt = NONE;
@@ -1740,6 +1773,10 @@ public final class RiverSeniority {
         private boolean stopped;
         final int[] decree = new int[MAX_TOKENS];
         int decreeLength;
+
+        Reader(Signs signs) {
+            this.signs = signs;
+        }
 
         void addText(String more) {
             for (int i = 0; i < more.length(); i++) {
@@ -1836,19 +1873,19 @@ public final class RiverSeniority {
 
         private int signAt(int start, int end) {
             for (int sign = Signs.SEMICOLON; sign <= Signs.MOST; sign++) {
-                if (isText(start, end, Signs.text(sign))) {
+                if (isText(start, end, sign)) {
                     return sign;
                 }
             }
             return Signs.BAD;
         }
 
-        private boolean isText(int start, int end, String word) {
-            if (word.length() != end - start) {
+        private boolean isText(int start, int end, int sign) {
+            if (signs.length(sign) != end - start) {
                 return false;
             }
             for (int i = start; i < end; i++) {
-                if (text[i] != word.charAt(i - start)) {
+                if (text[i] != signs.letter(sign, i - start)) {
                     return false;
                 }
             }
@@ -2076,15 +2113,20 @@ public final class RiverSeniority {
 
     /** Writes a basin as a text. */
     private static final class Writer {
+        private final Signs signs;
         final char[] text = new char[MAX_WRITTEN];
         int length;
 
+        Writer(Signs signs) {
+            this.signs = signs;
+        }
+
         int write(Basin basin) {
             length = 0;
-            putText(Signs.text(Signs.BASIN));
+            putWord(Signs.BASIN);
             putChar(';');
             for (int place = 0; place < basin.placeCount; place++) {
-                putText(Signs.text(Signs.PLACE));
+                putWord(Signs.PLACE);
                 putNumber(basin.places[place].capacity);
                 putNumber(basin.places[place].storage[basin.today]);
                 putChar(';');
@@ -2104,7 +2146,7 @@ public final class RiverSeniority {
         }
 
         private void writeReach(Reach reach) {
-            putText(Signs.text(Signs.REACH));
+            putWord(Signs.REACH);
             putNumber(reach.from);
             putNumber(reach.to);
             putNumber(reach.capacity[0]);
@@ -2120,7 +2162,7 @@ public final class RiverSeniority {
         }
 
         private void writeRight(Right right) {
-            putText(Signs.text(Signs.RIGHT));
+            putWord(Signs.RIGHT);
             putNumber(right.place);
             putNumber(right.year);
             putNumber(right.price);
@@ -2166,7 +2208,7 @@ public final class RiverSeniority {
             if (sum == 0) {
                 return;
             }
-            putText(Signs.text(Signs.INFLOW));
+            putWord(Signs.INFLOW);
             putNumber(scenario);
             putNumber(number);
             for (int week = 0; week < WEEKS; week++) {
@@ -2177,7 +2219,7 @@ public final class RiverSeniority {
 
         private void putSign(int sign) {
             putChar(' ');
-            putText(Signs.text(sign));
+            putWord(sign);
         }
 
         /** Numbers have at most four digits here. */
@@ -2193,9 +2235,9 @@ public final class RiverSeniority {
             }
         }
 
-        private void putText(String more) {
-            for (int i = 0; i < more.length(); i++) {
-                putChar(more.charAt(i));
+        private void putWord(int sign) {
+            for (int i = 0; i < signs.length(sign); i++) {
+                putChar(signs.letter(sign, i));
             }
         }
 
